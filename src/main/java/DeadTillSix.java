@@ -1316,9 +1316,13 @@ public final class DeadTillSix {
 
         private void gatherWords(Town town, Rule rule) {
             for (int i = 0; i < town.people; i++) {
+                if (town.lives(i)) {
+                    continue;
+                }
+                boolean wakes = town.dead[i] == 1;
                 for (int j = 0; j < town.people; j++) {
-                    boolean asked = town.lives(j) || town.dead[i] == 1;
-                    if (i != j && !town.lives(i) && asked) {
+                    // One who looks round may have heard others who are dead themselves by now.
+                    if (i != j && (wakes || town.lives(j))) {
                         words[pair(j, i)] = rule.words(town, j, i);
                     }
                 }
