@@ -101,6 +101,17 @@ public final class AfternoonTest {
         z.dies(1, 9);
         z.hours(1);
         Check.due("9: one who was heard before", z.between(0, 1, 0), 6);
+        // As all is ahead of this hour: 1 said nothing in the hour 0, and says 1 in the hour 1, in which it is dead.
+        DeadTillSix v = Check.town("0000000;5000000;0000000");
+        Check.rule(v, "n");
+        v.dies(0, 2);
+        v.hours(1);
+        v.dies(1, 9);
+        v.hours(1);
+        Check.due("9: by words of this hour", v.between(0, 1, 0), 1);
+        v.hours(8);
+        // In the hour 9, in which 1 comes to live, 0 says 9 of it.
+        Check.due("9: of the first one", v.between(1, 0, 0), 6);
         // The same opinion and words: nothing changes.
         DeadTillSix w = Check.town("0900000;9000000");
         w.dies(0, 1);
@@ -216,10 +227,13 @@ public final class AfternoonTest {
         Check.due("13: just so much", x.pays(1, 0, 1), 2);
         x.sheet(2, 2, 9, 0);
         Check.due("13: the rest", x.pays(1, 0, 2), 0);
+        x.sheet(2, 3, 9, -9);
+        x.lends(0, 2, 9);
+        Check.due("13: all that one has", x.pays(2, 0, 9), 0);
         x.dies(0, 1);
         Check.due("13: to one who is dead", x.pays(1, 0, 99), -4);
         Check.due("13: by one who is dead", x.pays(0, 1, 1), -4);
-        Check.due("13: what can be undone", x.count(10), 5);
+        Check.due("13: what can be undone", x.count(10), 7);
     }
 
     private static void afternoonsDone() {

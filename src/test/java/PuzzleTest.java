@@ -86,7 +86,13 @@ public final class PuzzleTest {
         x.sheet(2, 3, 99, 0);
         Check.due("33: alike", asked(x, x.asks()), "0: 3");
         x.sheet(2, 3, 99, -1);
-        Check.due("33: at the top", asked(x, x.asks()), "98: 2");
+        Check.due("33: near the top", asked(x, x.asks()), "98: 2");
+        x.sheet(2, 3, 99, -1);
+        x.heard(0, 98);
+        Check.due("33: at the top", asked(x, x.asks()), "99: 1");
+        x.forget();
+        x.sheet(2, 2, 0, 1);
+        Check.due("33: at the bottom", asked(x, x.asks()), "1: 2");
         Check.due("33: without people", new DeadTillSix().asks(), -2);
     }
 
@@ -139,6 +145,15 @@ public final class PuzzleTest {
         Check.due("37: one is left", asked(x, x.tries()), "0: 1");
         x.listens(4, 1, 5);
         Check.due("37: none is left", asked(x, x.tries()), "-2: 1");
+        DeadTillSix y = new DeadTillSix();
+        y.listens(5, 0, 5);
+        y.listens(9, 1, 9);
+        // b is 0 .. 9, and by 0 each of them says another word.
+        Check.due("37: by OPINION 0 of the dead", asked(y, y.tries()), "10: 1");
+        DeadTillSix z = new DeadTillSix();
+        z.listens(5, 1, 5);
+        z.listens(9, 0, 9);
+        Check.due("37: by OPINION 0 of the living", asked(z, z.tries()), "0: 1");
     }
 
     private static void atTheBank() {
@@ -182,6 +197,12 @@ public final class PuzzleTest {
         Check.due("39: one of two", asked(x, x.quiet(1, 5)), "0: 5 8");
         Check.due("39: both", asked(x, x.quiet(2, 5)), "0: 1 8");
         Check.due("39: three", asked(x, x.quiet(3, 5)), "0: 0 1");
+        DeadTillSix six = Check.town("0000000;0000000;0000000;0000000;0000000;0000000");
+        for (int i = 0; i < 6; i++) {
+            six.dies(i, 1);
+        }
+        Check.due("39: six of six", asked(six, six.quiet(6, 5)), "0: 1 64");
+        Check.due("39: five of six", asked(six, six.quiet(5, 5)), "0: 7 64");
         x.dies(4, 9);
         x.dies(5, 4);
         Check.due("39: sixteen hours", asked(x, x.quiet(4, 1)), "0: 1853020188851841 10000000000000000");

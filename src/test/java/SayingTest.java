@@ -161,6 +161,10 @@ public final class SayingTest {
         Check.due("23: words are less", asked(x, x.flattery()), "7: 2 0 0");
         Check.rule(x, "o");
         Check.due("23: no difference", asked(x, x.flattery()), "0: 0 1 0");
+        DeadTillSix two = Check.town("0900000;8000000");
+        Check.due("23: two, by 1 and 0", asked(two, two.flattery()), "0: 0 1 0");
+        Check.rule(two, "9");
+        Check.due("23: words are 1 more", asked(two, two.flattery()), "1: 1 0 1");
         DeadTillSix y = Check.town("0000000");
         y.said(0);
         Check.due("23: one alone", asked(y, y.flattery()), "-2: ");
