@@ -1251,26 +1251,15 @@ public final class DeadTillSix {
         }
 
         int lend(int one, int other, int n) {
-            if (!hasTwo(one, other) || n < 1 || n > MOST_CASH) {
-                return NONE;
-            }
-            if (!lives(one) || !lives(other)) {
-                return -4;
-            }
-            if (cash[one] < n) {
-                return -2;
-            }
-            int at = pair(other, one);
-            if (cash[other] + n > MOST_CASH || debt[at] + n > MOST_DEBT) {
-                return -3;
-            }
-            cash[one] -= n;
-            cash[other] += n;
-            debt[at] += n;
-            return debt[at];
+            return hand(one, other, n, true);
         }
 
         int pay(int one, int other, int n) {
+            return hand(one, other, n, false);
+        }
+
+        /** CASH goes from one to another: by a loan that one's DEBT grows, else the first one's DEBT is less. */
+        private int hand(int one, int other, int n, boolean loan) {
             if (!hasTwo(one, other) || n < 1 || n > MOST_CASH) {
                 return NONE;
             }
@@ -1280,14 +1269,15 @@ public final class DeadTillSix {
             if (cash[one] < n) {
                 return -2;
             }
-            int at = pair(one, other);
-            if (debt[at] < n || cash[other] + n > MOST_CASH) {
+            int at = loan ? pair(other, one) : pair(one, other);
+            int left = loan ? debt[at] + n : debt[at] - n;
+            if (left < 0 || left > MOST_DEBT || cash[other] + n > MOST_CASH) {
                 return -3;
             }
             cash[one] -= n;
             cash[other] += n;
-            debt[at] -= n;
-            return debt[at];
+            debt[at] = left;
+            return left;
         }
     }
 

@@ -102,6 +102,11 @@ final class Check {
         return numbers.toString();
     }
 
+    /** An answer with the ROW behind it. */
+    static String asked(DeadTillSix x, int answer) {
+        return answer + ": " + row(x);
+    }
+
     /** All that can be seen of the people, in one text. */
     static String seen(DeadTillSix x) {
         StringBuilder all = new StringBuilder("hour " + x.count(1));

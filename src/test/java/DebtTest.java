@@ -12,79 +12,75 @@ public final class DebtTest {
         Check.close();
     }
 
-    private static String asked(DeadTillSix x, int answer) {
-        return answer + ": " + Check.row(x);
-    }
-
     private static void debtsLater() {
         DeadTillSix x = Check.town(THREE);
         x.lends(0, 1, 5);
-        Check.due("26: now", asked(x, x.owes(1, 0, 0)), "5: 0");
-        Check.due("26: later", asked(x, x.owes(1, 0, 7)), "12: 7");
-        Check.due("26: none does not grow", asked(x, x.owes(0, 1, 99)), "0: 0");
-        Check.due("26: 99 at most", asked(x, x.owes(1, 0, 99)), "99: 94");
+        Check.due("26: now", Check.asked(x, x.owes(1, 0, 0)), "5: 0");
+        Check.due("26: later", Check.asked(x, x.owes(1, 0, 7)), "12: 7");
+        Check.due("26: none does not grow", Check.asked(x, x.owes(0, 1, 99)), "0: 0");
+        Check.due("26: 99 at most", Check.asked(x, x.owes(1, 0, 99)), "99: 94");
         x.dies(1, 3);
-        Check.due("26: it rests for three hours", asked(x, x.owes(1, 0, 5)), "7: 2");
+        Check.due("26: it rests for three hours", Check.asked(x, x.owes(1, 0, 5)), "7: 2");
         x.dies(0, 4);
-        Check.due("26: or four", asked(x, x.owes(1, 0, 5)), "6: 1");
+        Check.due("26: or four", Check.asked(x, x.owes(1, 0, 5)), "6: 1");
         Check.due("26: like ones", x.owes(0, 0, 1), -1);
         Check.due("26: none such", x.owes(0, 3, 1), -1);
         Check.due("26: by none such", x.owes(-1, 0, 1), -1);
         Check.due("26: too late", x.owes(1, 0, 100), -1);
-        Check.due("26: too early", asked(x, x.owes(1, 0, -1)), "-1: 1");
+        Check.due("26: too early", Check.asked(x, x.owes(1, 0, -1)), "-1: 1");
     }
 
     private static void settling() {
         DeadTillSix x = Check.town(SIX);
-        Check.due("27: nothing", asked(x, x.settles()), "0: 1000 1000 1000 1000 1000 1000");
+        Check.due("27: nothing", Check.asked(x, x.settles()), "0: 1000 1000 1000 1000 1000 1000");
         x.lends(0, 1, 3);
         x.lends(1, 2, 3);
         x.lends(2, 3, 3);
-        Check.due("27: in a chain", asked(x, x.settles()), "1: 1003 1000 1000 997 1000 1000");
+        Check.due("27: in a chain", Check.asked(x, x.settles()), "1: 1003 1000 1000 997 1000 1000");
         x.lends(3, 0, 3);
-        Check.due("27: in a ring", asked(x, x.settles()), "0: 1000 1000 1000 1000 1000 1000");
+        Check.due("27: in a ring", Check.asked(x, x.settles()), "0: 1000 1000 1000 1000 1000 1000");
         x.undo();
         x.lends(4, 5, 1);
         x.lends(4, 2, 2);
         // 3, 0, -2, -3, 3, -1: 0 and 3, then 2 and 5 with 4.
-        Check.due("27: two groups of them", asked(x, x.settles()), "3: 1003 1000 998 997 1003 999");
+        Check.due("27: two groups of them", Check.asked(x, x.settles()), "3: 1003 1000 998 997 1003 999");
         DeadTillSix y = Check.town(SIX);
         y.lends(0, 1, 1);
         y.lends(0, 2, 2);
         y.lends(0, 3, 4);
-        Check.due("27: by each of three", asked(y, y.settles()), "3: 1007 999 998 996 1000 1000");
+        Check.due("27: by each of three", Check.asked(y, y.settles()), "3: 1007 999 998 996 1000 1000");
         y.dies(0, 9);
-        Check.due("27: the dead, too", asked(y, y.settles()), "3: 1007 999 998 996 1000 1000");
+        Check.due("27: the dead, too", Check.asked(y, y.settles()), "3: 1007 999 998 996 1000 1000");
         DeadTillSix z = new DeadTillSix();
         z.fits();
-        Check.due("27: without people", asked(z, z.settles()), "0: ");
+        Check.due("27: without people", Check.asked(z, z.settles()), "0: ");
     }
 
     private static void grouping() {
         DeadTillSix x = Check.town(SIX);
-        Check.due("28: each for itself", asked(x, x.groups()), "6: 1");
+        Check.due("28: each for itself", Check.asked(x, x.groups()), "6: 1");
         x.lends(0, 3, 2);
-        Check.due("28: two together", asked(x, x.groups()), "5: 9");
+        Check.due("28: two together", Check.asked(x, x.groups()), "5: 9");
         x.lends(1, 2, 2);
         // 2, 2, -2, -2: the first one with 2 or with 3.
-        Check.due("28: of as many the least", asked(x, x.groups()), "4: 5");
+        Check.due("28: of as many the least", Check.asked(x, x.groups()), "4: 5");
         x.lends(4, 5, 2);
-        Check.due("28: three pairs", asked(x, x.groups()), "3: 5");
+        Check.due("28: three pairs", Check.asked(x, x.groups()), "3: 5");
         DeadTillSix y = Check.town(SIX);
         y.lends(3, 0, 3);
         y.lends(1, 2, 1);
         y.lends(4, 5, 2);
         // -3, 1, -1, 3, 2, -2: the first one with 1 and 4 would leave fewer groups.
-        Check.due("28: the most groups first", asked(y, y.groups()), "3: 9");
+        Check.due("28: the most groups first", Check.asked(y, y.groups()), "3: 9");
         DeadTillSix z = new DeadTillSix();
         z.fits();
-        Check.due("28: without people", asked(z, z.groups()), "0: ");
+        Check.due("28: without people", Check.asked(z, z.groups()), "0: ");
         DeadTillSix alone = Check.town("0000000");
-        Check.due("28: one alone", asked(alone, alone.groups()), "1: 1");
+        Check.due("28: one alone", Check.asked(alone, alone.groups()), "1: 1");
         DeadTillSix w = Check.town(THREE);
         w.lends(0, 1, 1);
         w.lends(0, 2, 1);
-        Check.due("28: all in one", asked(w, w.groups()), "1: 7");
+        Check.due("28: all in one", Check.asked(w, w.groups()), "1: 7");
     }
 
     /** 0 has 28 of HONOUR, 1 has 10 and 2 has none. */
@@ -99,18 +95,18 @@ public final class DebtTest {
     private static void streetsNamed() {
         DeadTillSix x = honoured();
         Check.due("29: honours", x.person(0, 1) + " " + x.person(1, 1) + " " + x.person(2, 1), "28 10 0");
-        Check.due("29: one street", asked(x, Check.streets(x, "0")), "1: 0");
-        Check.due("29: just enough", asked(x, Check.streets(x, "1")), "1: 0");
-        Check.due("29: too much", asked(x, Check.streets(x, "3")), "0: -1");
-        Check.due("29: for another one each", asked(x, Check.streets(x, "22")), "1: -1 0");
-        Check.due("29: the least row of as many", asked(x, Check.streets(x, "12")), "2: 1 0");
-        Check.due("29: all three", asked(x, Check.streets(x, "102")), "3: 1 2 0");
-        Check.due("29: three again", asked(x, Check.streets(x, "000")), "3: 0 1 2");
-        Check.due("29: nobody first", asked(x, Check.streets(x, "000000")), "3: -1 -1 -1 0 1 2");
-        Check.due("29: nobody where it must be", asked(x, Check.streets(x, "019")), "2: 0 1 -1");
+        Check.due("29: one street", Check.asked(x, Check.streets(x, "0")), "1: 0");
+        Check.due("29: just enough", Check.asked(x, Check.streets(x, "1")), "1: 0");
+        Check.due("29: too much", Check.asked(x, Check.streets(x, "3")), "0: -1");
+        Check.due("29: for another one each", Check.asked(x, Check.streets(x, "22")), "1: -1 0");
+        Check.due("29: the least row of as many", Check.asked(x, Check.streets(x, "12")), "2: 1 0");
+        Check.due("29: all three", Check.asked(x, Check.streets(x, "102")), "3: 1 2 0");
+        Check.due("29: three again", Check.asked(x, Check.streets(x, "000")), "3: 0 1 2");
+        Check.due("29: nobody first", Check.asked(x, Check.streets(x, "000000")), "3: -1 -1 -1 0 1 2");
+        Check.due("29: nobody where it must be", Check.asked(x, Check.streets(x, "019")), "2: 0 1 -1");
         Check.due("29: the text is emptied", x.count(12), 0);
         DeadTillSix y = new DeadTillSix();
-        Check.due("29: without people", asked(y, Check.streets(y, "00")), "0: -1 -1");
+        Check.due("29: without people", Check.asked(y, Check.streets(y, "00")), "0: -1 -1");
     }
 
     private static void streetsThatCannot() {

@@ -12,21 +12,17 @@ public final class KeptTest {
         Check.close();
     }
 
-    private static String asked(DeadTillSix x, int answer) {
-        return answer + ": " + Check.row(x);
-    }
-
     private static void otherRules() {
         DeadTillSix x = Check.town(THREE);
-        Check.due("41: nobody is dead", asked(x, Check.law(x, "9")), "0: 0 0");
+        Check.due("41: nobody is dead", Check.asked(x, Check.law(x, "9")), "0: 0 0");
         x.dies(0, 2);
-        Check.due("41: more", asked(x, Check.law(x, "9")), "8: 36 28");
-        Check.due("41: less", asked(x, Check.law(x, "1")), "-24: 4 28");
-        Check.due("41: none", asked(x, Check.law(x, "")), "0: 28 28");
+        Check.due("41: more", Check.asked(x, Check.law(x, "9")), "8: 36 28");
+        Check.due("41: less", Check.asked(x, Check.law(x, "1")), "-24: 4 28");
+        Check.due("41: none", Check.asked(x, Check.law(x, "")), "0: 28 28");
         Check.rule(x, "3");
-        Check.due("41: none, less another one", asked(x, Check.law(x, "")), "16: 28 12");
+        Check.due("41: none, less another one", Check.asked(x, Check.law(x, "")), "16: 28 12");
         Check.due("41: the rule stays", x.between(0, 1, 1), 3);
-        Check.due("41: in twelve hours", asked(x, Check.law(x, "n")), "-10: 2 12");
+        Check.due("41: in twelve hours", Check.asked(x, Check.law(x, "n")), "-10: 2 12");
         Check.due("41: the text is emptied", x.count(12), 0);
         String[] texts = {"x", "o+", "o<d<t", "((((" + "(o", "1000", "-".repeat(41)};
         int[] places = {0, 2, 3, 4, 3, 40};
@@ -65,12 +61,12 @@ public final class KeptTest {
                     y.coughs(draw(3));
                 }
             }
-            Check.due("42: years(" + seed * 1234567 + ", " + n + ")", asked(x, x.years(seed * 1234567, n)),
+            Check.due("42: years(" + seed * 1234567 + ", " + n + ")", Check.asked(x, x.years(seed * 1234567, n)),
                     y.count(4) + ": " + Integer.bitCount(y.count(2)) + " " + y.count(5));
             Check.due("42: it is a question", x.count(1), 1);
         }
         DeadTillSix z = new DeadTillSix();
-        Check.due("42: without people", asked(z, z.years(5, 60)), "0: 0 0");
+        Check.due("42: without people", Check.asked(z, z.years(5, 60)), "0: 0 0");
         Check.due("42: no years", z.years(5, 0), -1);
         Check.due("42: below 0", z.years(5, -1), -1);
         Check.due("42: too many", z.years(5, 61), -1);

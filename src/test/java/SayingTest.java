@@ -17,23 +17,19 @@ public final class SayingTest {
         Check.close();
     }
 
-    private static String asked(DeadTillSix x, int answer) {
-        return answer + ": " + Check.row(x);
-    }
-
     private static void saying() {
         DeadTillSix x = Check.town(THREE);
-        Check.due("16: of 0", asked(x, x.said(0)), "16: 7 9");
-        Check.due("16: of 1", asked(x, x.said(1)), "13: 8 5");
-        Check.due("16: of 2", asked(x, x.said(2)), "12: 6 6");
+        Check.due("16: of 0", Check.asked(x, x.said(0)), "16: 7 9");
+        Check.due("16: of 1", Check.asked(x, x.said(1)), "13: 8 5");
+        Check.due("16: of 2", Check.asked(x, x.said(2)), "12: 6 6");
         x.dies(1, 1);
-        Check.due("16: the dead say nothing", asked(x, x.said(0)), "9: 9");
-        Check.due("16: of the dead", asked(x, x.said(1)), "9: 7 2");
-        Check.due("16: of none such", asked(x, x.said(3)), "-1: 7 2");
+        Check.due("16: the dead say nothing", Check.asked(x, x.said(0)), "9: 9");
+        Check.due("16: of the dead", Check.asked(x, x.said(1)), "9: 7 2");
+        Check.due("16: of none such", Check.asked(x, x.said(3)), "-1: 7 2");
         Check.due("16: of none below 0", x.said(-1), -1);
         x.dies(0, 1);
         x.dies(2, 1);
-        Check.due("16: nobody speaks", asked(x, x.said(0)), "0: ");
+        Check.due("16: nobody speaks", Check.asked(x, x.said(0)), "0: ");
         Check.due("16: of one alone", Check.town("0000000").said(0), 0);
     }
 
@@ -41,26 +37,26 @@ public final class SayingTest {
         DeadTillSix x = Check.town(THREE);
         x.dies(0, 2);
         x.dies(1, 9);
-        Check.due("17: now", asked(x, x.later(0, 0)), "0: 0 0 0");
-        Check.due("17: in an hour", asked(x, x.later(0, 1)), "9: 9 2 0");
-        Check.due("17: of another one", asked(x, x.later(1, 2)), "4: 18 4 0");
-        Check.due("17: when 0 speaks again", asked(x, x.later(1, 3)), "13: 18 13 0");
-        Check.due("17: much later", asked(x, x.later(2, 99)), "0: 18 67 0");
+        Check.due("17: now", Check.asked(x, x.later(0, 0)), "0: 0 0 0");
+        Check.due("17: in an hour", Check.asked(x, x.later(0, 1)), "9: 9 2 0");
+        Check.due("17: of another one", Check.asked(x, x.later(1, 2)), "4: 18 4 0");
+        Check.due("17: when 0 speaks again", Check.asked(x, x.later(1, 3)), "13: 18 13 0");
+        Check.due("17: much later", Check.asked(x, x.later(2, 99)), "0: 18 67 0");
         Check.due("17: too late", x.later(0, 100), -1);
         Check.due("17: too early", x.later(0, -1), -1);
         Check.due("17: none such", x.later(3, 1), -1);
-        Check.due("17: none such below 0", asked(x, x.later(-1, 1)), "-1: 18 67 0");
+        Check.due("17: none such below 0", Check.asked(x, x.later(-1, 1)), "-1: 18 67 0");
         Check.due("17: it is now", x.count(1), 0);
     }
 
     private static void theMostHonoured() {
         DeadTillSix x = Check.town(THREE);
-        Check.due("18: all alike", asked(x, x.most(0)), "0: 0 0");
+        Check.due("18: all alike", Check.asked(x, x.most(0)), "0: 0 0");
         x.dies(1, 1);
-        Check.due("18: one later", asked(x, x.most(1)), "1: 9 0");
+        Check.due("18: one later", Check.asked(x, x.most(1)), "1: 9 0");
         x.dies(0, 1);
         // 2 says 9 of 0 and 2 of 1.
-        Check.due("18: two of them", asked(x, x.most(99)), "0: 9 2");
+        Check.due("18: two of them", Check.asked(x, x.most(99)), "0: 9 2");
         Check.due("18: too late", x.most(100), -1);
         Check.due("18: too early", x.most(-1), -1);
         Check.due("18: nobody", new DeadTillSix().most(5), -2);
@@ -68,68 +64,68 @@ public final class SayingTest {
         y.dies(0, 1);
         y.dies(1, 2);
         // 0 hears 5 from 2; 1 hears 5 from 2, and 0 of 0 in its second hour, and 5 of 2 again.
-        Check.due("18: of equal ones the first", asked(y, y.most(1)), "0: 5 2");
-        Check.due("18: then another one", asked(y, y.most(2)), "1: 10 2");
+        Check.due("18: of equal ones the first", Check.asked(y, y.most(1)), "0: 5 2");
+        Check.due("18: then another one", Check.asked(y, y.most(2)), "1: 10 2");
     }
 
     private static void howLong() {
         DeadTillSix x = Check.town(THREE);
         // 1 and 2 say 5 and 9 of 0, when it is dead.
-        Check.due("19: as long as can be", asked(x, x.longest(0)), "9: 126 0");
+        Check.due("19: as long as can be", Check.asked(x, x.longest(0)), "9: 126 0");
         Check.rule(x, "n<3");
         // In the hours 0, 1, 2 each of both says 1.
-        Check.due("19: of equal ones the least", asked(x, x.longest(0)), "3: 6 0");
+        Check.due("19: of equal ones the least", Check.asked(x, x.longest(0)), "3: 6 0");
         Check.rule(x, "0");
-        Check.due("19: of no use", asked(x, x.longest(0)), "1: 0 0");
+        Check.due("19: of no use", Check.asked(x, x.longest(0)), "1: 0 0");
         x.dies(0, 1);
         x.hours(1);
         Check.rule(x, "");
         // As they think of it: 5 and 9.
-        Check.due("19: once more", asked(x, x.longest(0)), "9: 126 0");
+        Check.due("19: once more", Check.asked(x, x.longest(0)), "9: 126 0");
         x.dies(0, 2);
-        Check.due("19: one who is dead", asked(x, x.longest(0)), "-2: 126 0");
+        Check.due("19: one who is dead", Check.asked(x, x.longest(0)), "-2: 126 0");
         Check.due("19: none such", x.longest(3), -1);
         x.hours(2);
-        Check.due("19: honour that it has counts", asked(x, x.longest(0)), "9: 154 28");
+        Check.due("19: honour that it has counts", Check.asked(x, x.longest(0)), "9: 154 28");
     }
 
     private static void whoTogether() {
         DeadTillSix x = Check.town(THREE);
         // Of 0 is said 5 and 9, of 1 7 and 2, of 2 3 and 4: 0 alone 14, 1 alone 9, 0 and 1 9 + 2, 2 alone 7.
-        Check.due("20: one", asked(x, x.together(1)), "14: 1");
-        Check.due("20: for nine hours", asked(x, x.together(9)), "126: 1");
+        Check.due("20: one", Check.asked(x, x.together(1)), "14: 1");
+        Check.due("20: for nine hours", Check.asked(x, x.together(9)), "126: 1");
         DeadTillSix y = Check.town("0900000;9000000;9900000");
         // 2 says 9 of both; 0 and 1 say 9 of each other and 0 of 2.
-        Check.due("20: the least of as good ones", asked(y, y.together(2)), "36: 1");
+        Check.due("20: the least of as good ones", Check.asked(y, y.together(2)), "36: 1");
         Check.rule(y, "0");
-        Check.due("20: nobody", asked(y, y.together(2)), "0: 0");
+        Check.due("20: nobody", Check.asked(y, y.together(2)), "0: 0");
         Check.rule(y, "");
         y.dies(0, 1);
         y.dies(1, 9);
         // 0 hears 2 in one hour; 1 hears 2 in both hours and 0 in the second one.
-        Check.due("20: those who are dead already", asked(y, y.together(2)), "36: 0");
+        Check.due("20: those who are dead already", Check.asked(y, y.together(2)), "36: 0");
         Check.due("20: for no hours", y.together(0), -1);
         Check.due("20: for ten", y.together(10), -1);
         DeadTillSix z = new DeadTillSix();
-        Check.due("20: without people", asked(z, z.together(3)), "0: 0");
+        Check.due("20: without people", Check.asked(z, z.together(3)), "0: 0");
     }
 
     private static void whoseDeath() {
         DeadTillSix x = Check.town(THREE);
-        Check.due("21: of no use", asked(x, x.heir(0, 3)), "1: 1009 1009");
+        Check.due("21: of no use", Check.asked(x, x.heir(0, 3)), "1: 1009 1009");
         x.lends(0, 1, 5);
         // 1 owes 0: its debt rests when 0 is dead. 9 less 5, and 3 more in three hours.
-        Check.due("21: of a debtor", asked(x, x.heir(1, 3)), "0: 1004 1001");
-        Check.due("21: of a creditor", asked(x, x.heir(0, 3)), "2: 1012 1012");
+        Check.due("21: of a debtor", Check.asked(x, x.heir(1, 3)), "0: 1004 1001");
+        Check.due("21: of a creditor", Check.asked(x, x.heir(0, 3)), "2: 1012 1012");
         x.lends(2, 0, 1);
         // 0 has 5 and is owed 5, and owes 1 to 2: if 2 dies, that rests.
-        Check.due("21: the other way", asked(x, x.heir(0, 3)), "2: 1012 1009");
+        Check.due("21: the other way", Check.asked(x, x.heir(0, 3)), "2: 1012 1009");
         x.dies(2, 5);
-        Check.due("21: those who live alone", asked(x, x.heir(0, 3)), "1: 1009 1012");
+        Check.due("21: those who live alone", Check.asked(x, x.heir(0, 3)), "1: 1009 1012");
         x.dies(0, 5);
-        Check.due("21: of one who is dead", asked(x, x.heir(0, 3)), "1: 1009 1009");
+        Check.due("21: of one who is dead", Check.asked(x, x.heir(0, 3)), "1: 1009 1009");
         x.dies(1, 5);
-        Check.due("21: nobody", asked(x, x.heir(0, 3)), "-2: 1009 1009");
+        Check.due("21: nobody", Check.asked(x, x.heir(0, 3)), "-2: 1009 1009");
         Check.due("21: for no hours", x.heir(0, 0), -1);
         Check.due("21: for ten", x.heir(0, 10), -1);
         Check.due("21: none such", x.heir(3, 1), -1);
@@ -138,63 +134,63 @@ public final class SayingTest {
 
     private static void thinking() {
         DeadTillSix x = Check.town(THREE);
-        Check.due("22: nothing changes", asked(x, x.thinks(0, 1, 99)), "7: 0");
+        Check.due("22: nothing changes", Check.asked(x, x.thinks(0, 1, 99)), "7: 0");
         x.dies(0, 2);
-        Check.due("22: not yet", asked(x, x.thinks(0, 1, 1)), "7: 0");
-        Check.due("22: then", asked(x, x.thinks(0, 1, 2)), "6: 1");
-        Check.due("22: of the other one", asked(x, x.thinks(0, 2, 50)), "4: 1");
-        Check.due("22: now", asked(x, x.thinks(0, 2, 0)), "3: 0");
+        Check.due("22: not yet", Check.asked(x, x.thinks(0, 1, 1)), "7: 0");
+        Check.due("22: then", Check.asked(x, x.thinks(0, 1, 2)), "6: 1");
+        Check.due("22: of the other one", Check.asked(x, x.thinks(0, 2, 50)), "4: 1");
+        Check.due("22: now", Check.asked(x, x.thinks(0, 2, 0)), "3: 0");
         Check.due("22: like ones", x.thinks(0, 0, 1), -1);
         Check.due("22: none such", x.thinks(0, 3, 1), -1);
         Check.due("22: by none such", x.thinks(-1, 0, 1), -1);
         Check.due("22: too late", x.thinks(0, 1, 100), -1);
-        Check.due("22: too early", asked(x, x.thinks(0, 1, -1)), "-1: 0");
+        Check.due("22: too early", Check.asked(x, x.thinks(0, 1, -1)), "-1: 0");
     }
 
     private static void flattering() {
         DeadTillSix x = Check.town(THREE);
         // 7 and 8, 3 and 6, 5 and 7, 4 and 6, 9 and 9, 2 and 5.
-        Check.due("23: the least row", asked(x, x.flattery()), "3: 0 2 1");
+        Check.due("23: the least row", Check.asked(x, x.flattery()), "3: 0 2 1");
         x.dies(2, 1);
-        Check.due("23: of the dead as one thinks", asked(x, x.flattery()), "3: 2 1 1");
+        Check.due("23: of the dead as one thinks", Check.asked(x, x.flattery()), "3: 2 1 1");
         Check.rule(x, "2");
-        Check.due("23: words are less", asked(x, x.flattery()), "7: 2 0 0");
+        Check.due("23: words are less", Check.asked(x, x.flattery()), "7: 2 0 0");
         Check.rule(x, "o");
-        Check.due("23: no difference", asked(x, x.flattery()), "0: 0 1 0");
+        Check.due("23: no difference", Check.asked(x, x.flattery()), "0: 0 1 0");
         DeadTillSix two = Check.town("0900000;8000000");
-        Check.due("23: two, by 1 and 0", asked(two, two.flattery()), "0: 0 1 0");
+        Check.due("23: two, by 1 and 0", Check.asked(two, two.flattery()), "0: 0 1 0");
         Check.rule(two, "9");
-        Check.due("23: words are 1 more", asked(two, two.flattery()), "1: 1 0 1");
+        Check.due("23: words are 1 more", Check.asked(two, two.flattery()), "1: 1 0 1");
         DeadTillSix y = Check.town("0000000");
         y.said(0);
-        Check.due("23: one alone", asked(y, y.flattery()), "-2: ");
+        Check.due("23: one alone", Check.asked(y, y.flattery()), "-2: ");
         Check.due("23: nobody", new DeadTillSix().flattery(), -2);
     }
 
     private static void waking() {
         DeadTillSix x = Check.town(THREE);
         x.said(0);
-        Check.due("24: nobody is dead", asked(x, x.wakes()), "-2: 7 9");
+        Check.due("24: nobody is dead", Check.asked(x, x.wakes()), "-2: 7 9");
         x.dies(0, 3);
-        Check.due("24: one", asked(x, x.wakes()), "0: 3 42");
+        Check.due("24: one", Check.asked(x, x.wakes()), "0: 3 42");
         x.dies(2, 2);
         // 0 and 1 say 3 and 4 of 2, but 0 is dead.
-        Check.due("24: the soonest", asked(x, x.wakes()), "2: 2 8");
+        Check.due("24: the soonest", Check.asked(x, x.wakes()), "2: 2 8");
         x.dies(1, 2);
-        Check.due("24: the first", asked(x, x.wakes()), "1: 2 0");
+        Check.due("24: the first", Check.asked(x, x.wakes()), "1: 2 0");
     }
 
     private static void echoes() {
         DeadTillSix x = Check.town(THREE);
-        Check.due("25: nobody", asked(x, x.echo(0)), "0: 0 0");
+        Check.due("25: nobody", Check.asked(x, x.echo(0)), "0: 0 0");
         Check.afternoon(x, "d01h1d11h1");
         // 0 heard 1 and 2, then 1 heard 0 and 2.
-        Check.due("25: of 0", asked(x, x.echo(0)), "2: 1 2");
-        Check.due("25: of 1", asked(x, x.echo(1)), "1: 1 1");
-        Check.due("25: of 2", asked(x, x.echo(2)), "3: 2 0");
+        Check.due("25: of 0", Check.asked(x, x.echo(0)), "2: 1 2");
+        Check.due("25: of 1", Check.asked(x, x.echo(1)), "1: 1 1");
+        Check.due("25: of 2", Check.asked(x, x.echo(2)), "3: 2 0");
         x.dies(0, 1);
-        Check.due("25: a new death forgets", asked(x, x.echo(2)), "2: 1 0");
-        Check.due("25: none such", asked(x, x.echo(3)), "-1: 1 0");
+        Check.due("25: a new death forgets", Check.asked(x, x.echo(2)), "2: 1 0");
+        Check.due("25: none such", Check.asked(x, x.echo(3)), "-1: 1 0");
         Check.due("25: none such below 0", x.echo(-1), -1);
     }
 
