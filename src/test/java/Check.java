@@ -5,16 +5,18 @@ import java.util.StringJoiner;
 final class Check {
     private static int wrong;
     private static int asked;
+    /** What stands ahead of each answer that is not as due. */
+    private static String heading = "";
 
     private Check() {
     }
 
+    static void heading(String words) {
+        heading = words;
+    }
+
     static void due(String what, long got, long want) {
-        asked++;
-        if (got != want) {
-            wrong++;
-            System.out.println(what + " answered " + got + ", due is " + want);
-        }
+        due(what, "" + got, "" + want);
     }
 
     static void due(String what, boolean got, boolean want) {
@@ -25,7 +27,7 @@ final class Check {
         asked++;
         if (!got.equals(want)) {
             wrong++;
-            System.out.println(what + " answered " + got + ", due is " + want);
+            System.out.println(heading + what + " answered " + got + ", due is " + want);
         }
     }
 
@@ -45,7 +47,7 @@ final class Check {
             got = e.toString();
         }
         wrong++;
-        System.out.println(what + " answered " + got + ", due is NoSuchElementException");
+        System.out.println(heading + what + " answered " + got + ", due is NoSuchElementException");
     }
 
     /** Puts a text behind THE TEXT that there is. */
@@ -121,6 +123,60 @@ final class Check {
             }
         }
         return all.toString();
+    }
+
+    /** All that can be seen of an object, then what undo() and again() bring: the object is of no use after it. */
+    static String all(DeadTillSix x) {
+        StringBuilder all = new StringBuilder("row " + row(x));
+        for (int what = 8; what <= 13; what++) {
+            all.append(", count(").append(what).append(") ").append(x.count(what));
+        }
+        all.append(", fits ").append(x.fits()).append(", laws ").append(x.laws()).append('\n').append(seen(x));
+        while (x.undo() >= 0) {
+            all.append("\nundone: ").append(seen(x));
+        }
+        for (int i = 0; i < 2; i++) {
+            all.append("\nagain(").append(i).append(") ").append(x.again(i) ? seen(x) : "not");
+        }
+        return all.toString();
+    }
+
+    /** A town in which something of every kind stands: debts, deaths, what was heard, a ROW, a text, things kept. */
+    static DeadTillSix busy() {
+        DeadTillSix x = town("0730009;5040004;9200001;1234567");
+        x.lends(0, 1, 3);
+        x.keep(0);
+        x.dies(0, 3);
+        x.hours(1);
+        x.heard(0, 2);
+        x.listens(5, 0, 7);
+        rule(x, "o-d+t");
+        x.said(1);
+        say(x, "h1");
+        return x;
+    }
+
+    /** A call on any object. */
+    interface On {
+        int answer(DeadTillSix x);
+    }
+
+    /** A call that does not read THE TEXT, gives this answer and changes nothing. */
+    static void dueAndNothing(String what, On call, int want) {
+        DeadTillSix x = busy();
+        due(what, call.answer(x), want);
+        due(what + " and then all", all(x), all(busy()));
+    }
+
+    /** A call that reads THE TEXT, gives this answer and changes nothing but that the text is empty. */
+    static void dueAndEmptied(String text, On call, int want) {
+        DeadTillSix x = busy();
+        x.end(0);
+        say(x, text);
+        due("of " + text, call.answer(x), want);
+        DeadTillSix twin = busy();
+        twin.end(0);
+        due("of " + text + " and then all", all(x), all(twin));
     }
 
     static void close() {

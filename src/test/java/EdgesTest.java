@@ -1,0 +1,16 @@
+import java.nio.file.Path;
+
+/** Each sentence of the document that names a boundary case, in its order, with a test of its own. */
+public final class EdgesTest {
+    public static void main(String[] args) throws Exception {
+        TermEdges.all();
+        PeopleEdges.all();
+        AfternoonEdges.all();
+        SayingEdges.all();
+        DebtEdges.all();
+        PuzzleEdges.all();
+        KeptEdges.all();
+        Sentence.compareWithDocument(Path.of(args.length > 0 ? args[0] : ".", "../shared/DOC.md"));
+        Check.close();
+    }
+}
