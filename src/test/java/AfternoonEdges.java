@@ -20,6 +20,7 @@ final class AfternoonEdges {
         wrongSignOfAfternoon();
         afternoonTooLong();
         undo();
+        undoOfEach();
         twelve();
         undoForgotten();
     }
@@ -404,6 +405,24 @@ final class AfternoonEdges {
         Check.due("no more", y.undo(), -1);
         Check.due("the hour", y.count(1), 0);
         Check.due("of a new object", new DeadTillSix().undo(), -1);
+    }
+
+    private static void undoOfEach() {
+        Sentence.of(15, "The latest hours(), dies(), coughs(), lends(), pays(), afternoon()");
+        Check.On[] acts = {x -> x.hours(1), x -> x.dies(1, 1), x -> x.coughs(0), x -> x.lends(1, 2, 1), x -> x.pays(1, 2, 1),
+            DeadTillSix::afternoon};
+        for (int i = 0; i < acts.length; i++) {
+            DeadTillSix x = Check.town("0000000;0000001;0000009");
+            x.dies(0, 9);
+            x.lends(2, 1, 1);
+            Check.say(x, "h1");
+            String before = Check.seen(x);
+            // A cough by one without honour and a debt that is paid answer 0, and are done.
+            Check.due("act " + i, acts[i].answer(x) >= 0, true);
+            Check.due("it changed something", Check.seen(x).equals(before), false);
+            Check.due("it can be undone", x.undo(), 2);
+            Check.due("all is as it was", Check.seen(x), before);
+        }
     }
 
     private static void twelve() {

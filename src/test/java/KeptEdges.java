@@ -112,6 +112,8 @@ final class KeptEdges {
         for (int first = 0; first < 4; first++) {
             Check.due("without people, " + first, Check.asked(nobody, nobody.years(seedOf(first), 60)), "0: 0 0");
         }
+        DeadTillSix alone = Check.town("0000000");
+        Check.due("one alone can die", Check.asked(alone, alone.years(seedOf(2), 1)), "0: 1 1");
         // All are dead, so nobody can die; all live, so nobody can cough.
         DeadTillSix dead = Check.town(THREE);
         Check.afternoon(dead, "d09d19d29");

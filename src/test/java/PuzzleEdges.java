@@ -17,6 +17,7 @@ final class PuzzleEdges {
         laws();
         tries();
         bank();
+        bankOnce();
         bankRefused();
         quiet();
         quietRefused();
@@ -221,6 +222,15 @@ final class PuzzleEdges {
         x.listens(5, 0, 5);
         x.listens(0, 1, 0);
         Check.due("the last of all", Check.asked(x, x.tries()), "19: 1");
+        x.doubts();
+        x.listens(5, 0, 5);
+        x.listens(9, 1, 9);
+        // b is 0 .. 9: by 0 each of these says another thing.
+        Check.due("the first of one who is dead", Check.asked(x, x.tries()), "10: 1");
+        x.doubts();
+        x.listens(5, 1, 5);
+        x.listens(9, 0, 9);
+        Check.due("the first of all", Check.asked(x, x.tries()), "0: 1");
         Sentence.of(37, "-2: none fits");
         x.listens(0, 1, 1);
         Check.due("none", Check.asked(x, x.tries()), "-2: 1");
@@ -263,9 +273,42 @@ final class PuzzleEdges {
         }
     }
 
+    /** The least number by which the one whose turn it is wins; 0 if he loses. */
+    private static int winning(int coins, int k, boolean own, boolean others) {
+        int[] takes = {1, coins / 2, k};
+        int least = 0;
+        for (int i = 0; i < 3; i++) {
+            boolean can = takes[i] > 0 && takes[i] <= coins && (i < 2 || own);
+            int left = coins - takes[i];
+            // Who has taken the last one has lost, so the other one needs not take any more.
+            if (can && left > 0 && winning(left, k, others, own && i < 2) == 0 && (least == 0 || takes[i] < least)) {
+                least = takes[i];
+            }
+        }
+        return least;
+    }
+
+    private static void bankOnce() {
+        Sentence.of(38, "or, once in the game, each, k (2 .. 9) if there are so many");
+        for (int n = 1; n <= 25; n++) {
+            DeadTillSix x = new DeadTillSix();
+            for (int k = 2; k <= 9; k++) {
+                int takes = winning(n, k, true, true);
+                int once = takes == 1 || takes == n / 2 ? 0 : 1;
+                String due = takes == 0 ? "0: " : "1: " + takes + " " + once;
+                Check.due("bank(" + n + ", " + k + ")", Check.asked(x, x.bank(n, k)), due);
+            }
+        }
+    }
+
     private static void bankRefused() {
         Sentence.of(38, "n (0 .. 99) coins lie in a bank");
-        Check.due("99", new DeadTillSix().bank(99, 2) >= 0, true);
+        DeadTillSix most = new DeadTillSix();
+        Model model = new Model();
+        for (int k = 2; k <= 9; k++) {
+            String due = model.bank(99, k) + ": " + model.told;
+            Check.due("99, k " + k, Check.asked(most, most.bank(99, k)), due.replaceAll("[\\[\\],]", ""));
+        }
         Sentence.of(38, "-2: there are none");
         for (int k = 2; k <= 9; k++) {
             int asked = k;

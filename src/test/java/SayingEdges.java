@@ -262,6 +262,9 @@ final class SayingEdges {
         Check.due("9 more ahead of 9 less", Check.asked(z, z.flattery()), "9: 0 1 1");
         Check.rule(z, "o-(o=9)");
         Check.due("the last one of all", Check.asked(z, z.flattery()), "1: 2 1 0");
+        DeadTillSix first = Check.town("0000000;5000000");
+        Check.rule(first, "o+(o=5)");
+        Check.due("of the first one, 1 more", Check.asked(first, first.flattery()), "1: 1 0 1");
         Sentence.of(23, "-2: fewer than two of PEOPLE");
         DeadTillSix one = Check.town("0000000");
         one.fits();
@@ -307,6 +310,11 @@ final class SayingEdges {
             int others = 63 - (1 << i);
             Check.due("all others", Check.asked(x, x.echo(i)), others + ": 5 " + others);
         }
+        DeadTillSix one = Check.town("0000000;0000000;0000000");
+        one.dies(0, 1);
+        one.hours(1);
+        Check.due("one who heard nobody itself", Check.asked(one, one.echo(2)), "1: 1 0");
+        Check.due("one whom nobody heard", Check.asked(one, one.echo(0)), "0: 0 0");
         Sentence.of(25, "NONE: none such.");
         for (int none : NONE_SUCH) {
             Check.dueAndNothing("echo(" + none + ")", y -> y.echo(none), -1);

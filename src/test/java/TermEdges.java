@@ -6,6 +6,7 @@ final class TermEdges {
     static void all() {
         calls();
         atMostSix();
+        fullTown();
         opinions();
         atFirst();
         limits();
@@ -45,6 +46,43 @@ final class TermEdges {
         Check.dueNoSuch("person 6", () -> x.person(6, 0));
         Sentence.ofTerms("each one more");
         Check.due("person 0 is the first that came", x.person(0, 0), 1);
+    }
+
+    /** Each call that looks at all PEOPLE, or at the last one, in a town that is full. */
+    private static void fullTown() {
+        Sentence.ofTerms("PEOPLE 0 .. (at most 6)");
+        DeadTillSix x = Check.town("0000009;0000009;0000009;0000009;0000009;0000009");
+        Check.rule(x, "1");
+        Check.due("said", Check.asked(x, x.said(5)), "5: 1 1 1 1 1");
+        Check.due("later", Check.asked(x, x.later(5, 9)), "0: 0 0 0 0 0 0");
+        Check.due("most", Check.asked(x, x.most(9)), "0: 0 0");
+        Check.due("longest", Check.asked(x, x.longest(5)), "9: 45 0");
+        Check.due("together", Check.asked(x, x.together(9)), "81: 7");
+        Check.due("heir", Check.asked(x, x.heir(5, 9)), "0: 1009 1009");
+        Check.due("thinks", Check.asked(x, x.thinks(5, 4, 9)), "0: 0");
+        Check.due("flattery", Check.asked(x, x.flattery()), "1: 0 1 1");
+        Check.due("wakes", x.wakes(), -2);
+        Check.due("echo", Check.asked(x, x.echo(5)), "0: 0 0");
+        Check.due("lends", x.lends(5, 4, 9), 9);
+        Check.due("owes", Check.asked(x, x.owes(4, 5, 9)), "18: 9");
+        Check.due("settles", Check.asked(x, x.settles()), "1: 1000 1000 1000 1000 991 1009");
+        Check.due("groups", Check.asked(x, x.groups()), "5: 1");
+        Check.due("pays", x.pays(4, 5, 9), 0);
+        Check.due("streets", Check.asked(x, Check.streets(x, "000000")), "6: 0 1 2 3 4 5");
+        Check.due("fits", Check.asked(x, x.fits()), "63: 6");
+        Check.due("asks", Check.asked(x, x.asks()), "0: 6");
+        Check.due("dies", x.dies(5, 9), 1);
+        Check.due("wakes", Check.asked(x, x.wakes()), "5: 9 45");
+        Check.due("quiet", Check.asked(x, x.quiet(1, 5)), "0: 1 512");
+        Check.due("law", Check.asked(x, Check.law(x, "2")), "45: 90 45");
+        Check.due("hours", Check.asked(x, x.hours(8)), "1: 40 0");
+        Check.due("coughs", x.coughs(5), 20);
+        Check.due("sheet", x.sheet(2, 6, 99, 0), 594);
+        int[] due = {6, 8, 0, 594, 20, 1, 0, 0, 0, 0, 5, 2, 0, 30};
+        for (int what = 0; what < due.length; what++) {
+            Check.due("count(" + what + ")", x.count(what), due[what]);
+        }
+        Check.due("years", x.years(3, 60) >= 0, true);
     }
 
     private static void opinions() {
@@ -156,6 +194,10 @@ final class TermEdges {
         for (int i = 0; i < due.length; i++) {
             dueWords(compared[i], due[i]);
         }
+        dueWords("5+(2<1)", 5);
+        dueWords("5+(1>2)", 5);
+        dueWords("5+(1=2)", 5);
+        dueWords("5+(1<2)", 6);
         dueWords("1<2<3", -1 - 3);
         dueWords("1=1=1", -1 - 3);
         dueWords("(2>1)>0>0", -1 - 7);
@@ -273,6 +315,15 @@ final class TermEdges {
         x.dies(1, 4);
         Check.due("while the other one is", Check.asked(x, x.owes(1, 0, 4)), "90: 0");
         Check.due("then not", Check.asked(x, x.owes(1, 0, 5)), "91: 1");
+        DeadTillSix each = Check.town("0000009;0000009;0000009");
+        for (int i = 0; i < 3; i++) {
+            each.lends(i, (i + 1) % 3, 1);
+            each.lends(i, (i + 2) % 3, 1);
+        }
+        each.hours(1);
+        for (int i = 0; i < 3; i++) {
+            Check.due("each debt of " + i + " and to it", each.person(i, 5) + " " + each.person(i, 6), "4 4");
+        }
     }
 
     private static void lookingRound() {
@@ -301,6 +352,17 @@ final class TermEdges {
         z.hours(1);
         Check.due("of one heard in both", z.between(0, 1, 0), 5);
         Check.due("of one heard in this hour", z.between(0, 2, 0), 6);
+        Sentence.ofTerms("its OPINION of each one whom it HEARD");
+        // 1 was heard in the first hour and is dead itself in the second one; by then it says 9. 2 was never heard.
+        DeadTillSix heard = Check.town("0550000;0000000;0000000");
+        Check.rule(heard, "9*n");
+        heard.dies(0, 2);
+        heard.dies(2, 9);
+        heard.hours(1);
+        heard.dies(1, 9);
+        heard.hours(1);
+        Check.due("one who is dead by now", heard.between(0, 1, 0), 6);
+        Check.due("one whom it did not hear", heard.between(0, 2, 0), 5);
         Sentence.ofTerms("DEAD is 1 less for those who are; one who lives thereby LOOKS ROUND");
         Check.due("one who lived already does not", z.between(1, 0, 0), 0);
         z.dies(1, 2);
