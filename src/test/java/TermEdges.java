@@ -236,6 +236,12 @@ final class TermEdges {
         dueWords("((((1))))+(((((2)))))", -1 - 14);
         dueWords("()", -1 - 1);
         dueWords("((1+(2)+(3)))", 6);
+        dueWords("9>1+2*(9>1+2*(9>1+2*(9>1+2*(5))))", 1);
+        Sentence.ofTerms("THE RULE is a text of at most 40 signs");
+        // As many things and operations as forty signs can hold.
+        dueWords("-9" + "+1".repeat(12) + "-0".repeat(7), 3);
+        dueWords("-9" + "+1".repeat(12) + "-0".repeat(6) + "*7", 3);
+        dueWords("-9" + "+1".repeat(12) + "-0".repeat(7) + "-", -1 - 40);
     }
 
     private static void wordsAtTheirEnds() {
