@@ -29,6 +29,7 @@ public final class FaceTest {
 
     public static void main(String[] args) throws Exception {
         face();
+        inside();
         for (int seed = 0; seed < 300; seed++) {
             wildCalls(new Random(seed));
         }
@@ -68,6 +69,27 @@ public final class FaceTest {
         Check.due("it is public", Modifier.isPublic(made[0].getModifiers()) && made[0].getParameterCount() == 0, true);
     }
 
+    /** Rules 1, 2, 5 and 11 of the language, as far as they can be seen of the classes inside. */
+    private static void inside() {
+        for (Class<?> c : DeadTillSix.class.getDeclaredClasses()) {
+            String name = c.getSimpleName();
+            int open = Modifier.PUBLIC | Modifier.PROTECTED;
+            Check.due(name + " is static", Modifier.isStatic(c.getModifiers()), true);
+            Check.due(name + " is not public or protected", (c.getModifiers() & open) == 0, true);
+            int fields = 0;
+            for (Field f : c.getDeclaredFields()) {
+                boolean isStatic = Modifier.isStatic(f.getModifiers());
+                fields += isStatic ? 0 : 1;
+                Check.due(name + "." + f.getName() + " is no static state",
+                        isStatic && !Modifier.isFinal(f.getModifiers()), false);
+            }
+            Check.due(name + " has at most twenty fields", fields <= 20, true);
+            for (Method m : c.getDeclaredMethods()) {
+                Check.due(name + "." + m.getName() + " has at most seven parameters", m.getParameterCount() <= 7, true);
+            }
+        }
+    }
+
     /** Calls with any arguments at all: nothing but NoSuchElementException comes, and that from three of them only. */
     private static void wildCalls(Random random) throws Exception {
         DeadTillSix x = new DeadTillSix();
@@ -105,6 +127,10 @@ public final class FaceTest {
         int number = 0;
         for (String line : source.split("\n")) {
             number++;
+            // All calls live in one room, so no method makes an object: rows stand in fields, or are made by a constructor.
+            boolean makes = line.contains("new ") && !line.matches(" +(private .* = new .*|throw new .*;|towns\\[i\\] = new Town\\(\\);)")
+                    && !line.matches(" +(/?\\*|//).*");
+            Check.due("line " + number + " makes an object", makes, false);
             imports += line.startsWith("import ") ? 1 : 0;
             classes += line.matches(".*\\bclass [A-Z].*\\{") ? 1 : 0;
             boolean opens = line.matches("    (    )?[a-zA-Z].*\\(.*\\).*\\{") && !line.contains(" class ");

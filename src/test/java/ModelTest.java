@@ -47,6 +47,7 @@ public final class ModelTest {
         if (random.nextInt(3) > 0) {
             call("sheet", 2, 6, random.nextInt(100), random.nextInt(30) - 15);
         }
+        growOld(random.nextInt(8));
         for (int i = 0; i < CALLS && !differs && used < ENOUGH; i++) {
             int dice = random.nextInt(10);
             if (dice < 2) {
@@ -60,6 +61,31 @@ public final class ModelTest {
             }
         }
         comparePeople();
+    }
+
+    /** Some towns are old: one was honoured, or dead, nearly as much as can be, or all are rich and one owes much. */
+    private void growOld(int kind) throws Exception {
+        int one = random.nextInt(model.now.people);
+        if (kind == 0) {
+            say("9");
+            call("rule");
+            for (int i = 0; i < 6 && model.now.honour[one] < 9000; i++) {
+                repeat("d" + one + "9h9", 12);
+            }
+        } else if (kind == 1) {
+            for (int i = 0; i < 8; i++) {
+                repeat("d" + one + "1c" + one, 12);
+            }
+        } else if (kind == 2) {
+            call("sheet", 2, 1, 99, 0);
+            call("lends", 0, one, 85 + random.nextInt(15));
+            call("sheet", 2, 6, 99, -random.nextInt(5));
+        }
+    }
+
+    private void repeat(String acts, int n) throws Exception {
+        say(acts.repeat(n));
+        callAndRow("afternoon");
     }
 
     private void comparePeople() throws Exception {
